@@ -235,7 +235,7 @@ public final class FibrePairs {
     }
 
     private static boolean holds(int set, int fibre) {
-        return (set >> fibre & 1) == 1;
+        return (set & (1 << fibre)) != 0;
     }
 
     private int leastNotThere() {
@@ -272,8 +272,8 @@ public final class FibrePairs {
                     ? net.bestPair(free, wanted.a, wanted.b)
                     : net.bestPath(free, wanted.a, wanted.b);
             if (taken != 0) {
-                // Whatever path leaves the fibres of the best pair, the rest is a path too (else
-                // a shorter pair were among them), so the best path there parts them rightly.
+                // Any path among the best pair's fibres leaves a path (or a shorter pair would be
+                // among them), so the best path there is the shorter one of the right parting.
                 wanted.settle(wavelength, net.bestPath(taken, wanted.a, wanted.b), taken);
                 return true;
             }
@@ -487,8 +487,12 @@ public final class FibrePairs {
             for (int round = 1; round < sites && better; round++) {
                 better = false;
                 for (int fibre = 0; fibre < fibres; fibre++) {
-                    better |= extend(from[fibre], fibre, to[fibre], onward[fibre]);
-                    better |= extend(to[fibre], fibre, from[fibre], backward[fibre]);
+                    if (extend(from[fibre], fibre, to[fibre], onward[fibre])) {
+                        better = true;
+                    }
+                    if (extend(to[fibre], fibre, from[fibre], backward[fibre])) {
+                        better = true;
+                    }
                 }
             }
             return way[b];
@@ -499,7 +503,7 @@ public final class FibrePairs {
                 return false;
             }
             cost[far] = cost[near] + price;
-            way[far] = way[near] | 1 << fibre;
+            way[far] = way[near] | (1 << fibre);
             return true;
         }
     }

@@ -169,11 +169,14 @@ public final class PromiseTest {
         duePath(x, 0, true, 3, 2);
         due("working length", x.about(0, 3), 5);
         due("spare length", x.about(0, 4), 6);
-        // The shortest path has a second one, but other pairs are shorter together.
-        FibrePairs y = desk(4, 0, 1, 1, 1, 2, 1, 2, 3, 1, 0, 2, 5, 1, 3, 4, 0, 3, 90);
+        // The shortest path has a second one (12 together), but another pair is shorter (11).
+        FibrePairs y = desk(4, 0, 1, 1, 1, 2, 1, 2, 3, 1, 0, 2, 5, 1, 3, 4, 0, 3, 9);
         due("request", y.request(3, 0, true), 0);
         duePath(y, 0, false, 4, 0);
         duePath(y, 0, true, 2, 3);
+        due("request", y.request(0, 3, true), 1);
+        duePath(y, 1, false, 0, 4);
+        duePath(y, 1, true, 3, 2);
         // Two paths may come through the same site, and parallel fibres are no common fibre.
         FibrePairs z = desk(3, 0, 1, 1, 0, 1, 1, 1, 2, 1, 2, 1, 3);
         due("request", z.request(0, 2, true), 0);
@@ -374,7 +377,11 @@ public final class PromiseTest {
         x.lock(0, false);
         due("count(4)", x.count(4), 1);
         due("bridge", x.bridge(0, 1, 1), 0);
+        x.cut(1);
+        due("bridge, one being cut and locked", x.bridge(0, 1, 1), 0);
         x.lock(1, false);
+        due("bridge, that being cut yet", x.bridge(0, 1, 1), 0);
+        x.mend(1);
         due("count(4)", x.count(4), 0);
         due("fits", x.fits(0, 1), 3);
     }
