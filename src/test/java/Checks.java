@@ -1,3 +1,5 @@
+import java.util.function.LongSupplier;
+
 /** What the project's tests have in common: they print what is wrong, and end with 1 if anything was. */
 final class Checks {
     private static int wrong = 0;
@@ -8,6 +10,21 @@ final class Checks {
     static void due(String what, long got, long want) {
         if (got != want) {
             fail(what + " answered " + got + ", due is " + want);
+        }
+    }
+
+    static void due(String what, String got, String want) {
+        if (!got.equals(want)) {
+            fail(what + " answered " + got + ", due is " + want);
+        }
+    }
+
+    /** The answer as a text, or throws. and the exception's name. */
+    static String answer(LongSupplier call) {
+        try {
+            return Long.toString(call.getAsLong());
+        } catch (RuntimeException e) {
+            return "throws." + e.getClass().getSimpleName();
         }
     }
 

@@ -2,6 +2,7 @@ import java.util.ArrayList;
 import java.util.Collections;
 import java.util.List;
 import java.util.Random;
+import java.util.function.LongSupplier;
 
 /**
  * Runs of calls, drawn with fixed seeds, against a model that follows the document's words: it
@@ -400,10 +401,6 @@ public final class ModelTest {
         }
     }
 
-    private interface Call {
-        long made();
-    }
-
     private static final class Run {
         final int run;
         final Random draw;
@@ -560,21 +557,10 @@ public final class ModelTest {
             }
         }
 
-        private void both(String text, Call realCall, Call modelCall) {
+        private void both(String text, LongSupplier realCall, LongSupplier modelCall) {
             calls.add(text);
-            String got = answer(realCall);
-            String want = answer(modelCall);
-            if (!got.equals(want)) {
-                Checks.fail("run " + run + ", call " + calls.size() + ": " + text + " answered " + got + ", due is " + want);
-            }
-        }
-
-        private static String answer(Call call) {
-            try {
-                return Long.toString(call.made());
-            } catch (RuntimeException e) {
-                return "throws." + e.getClass().getSimpleName();
-            }
+            Checks.due("run " + run + ", call " + calls.size() + ": " + text,
+                    Checks.answer(realCall), Checks.answer(modelCall));
         }
     }
 }

@@ -47,16 +47,6 @@ public final class PromiseTest {
         Checks.refused(part + ": " + what, want, call);
     }
 
-    /** A desk with so many sites; each three numbers are a fibre's ends and length. */
-    private static FibrePairs desk(int sites, int... fibres) {
-        FibrePairs x = new FibrePairs();
-        x.clear(sites);
-        for (int i = 0; i < fibres.length; i += 3) {
-            due("fibre", x.fibre(fibres[i], fibres[i + 1], fibres[i + 2]), i / 3);
-        }
-        return x;
-    }
-
     private static void duePath(FibrePairs x, int id, boolean spare, int... fibres) {
         String whose = "path(" + id + ", " + spare + ", ";
         for (int i = 0; i < fibres.length; i++) {
@@ -71,13 +61,6 @@ public final class PromiseTest {
         due("count(2)", x.count(2), connections);
         due("count(3)", x.count(3), cut);
         due("count(4)", x.count(4), locked);
-    }
-
-    /** Protected connection 0 from 0 to 1, working on fibre 0 and with fibre 1 as its spare. */
-    private static FibrePairs twoFibres() {
-        FibrePairs x = desk(2, 0, 1, 1, 0, 1, 2);
-        due("request", x.request(0, 1, true), 0);
-        return x;
     }
 
     private static void newObject() {
@@ -102,7 +85,7 @@ public final class PromiseTest {
 
     private static void clear() {
         part = "2 clear";
-        FibrePairs x = twoFibres();
+        FibrePairs x = Desks.guarded();
         x.hold(5);
         x.lock(0, true);
         x.cut(1);
@@ -134,7 +117,7 @@ public final class PromiseTest {
 
     private static void fibre() {
         part = "3 fibre";
-        FibrePairs x = desk(3);
+        FibrePairs x = Desks.of(3);
         refused("fibre(-1, 0, 1)", OUT, () -> x.fibre(-1, 0, 1));
         refused("fibre(0, -1, 1)", OUT, () -> x.fibre(0, -1, 1));
         refused("fibre(3, 0, 1)", OUT, () -> x.fibre(3, 0, 1));
@@ -163,14 +146,14 @@ public final class PromiseTest {
     private static void requestLeastTogether() {
         part = "4 request, least together";
         // The shortest path 0-1-2-3 (3) leaves no second one: both must leave the middle fibre.
-        FibrePairs x = desk(4, 0, 1, 1, 1, 2, 1, 2, 3, 1, 0, 2, 5, 1, 3, 4);
+        FibrePairs x = Desks.of(4, 0, 1, 1, 1, 2, 1, 2, 3, 1, 0, 2, 5, 1, 3, 4);
         due("request", x.request(0, 3, true), 0);
         duePath(x, 0, false, 0, 4);
         duePath(x, 0, true, 3, 2);
         due("working length", x.about(0, 3), 5);
         due("spare length", x.about(0, 4), 6);
         // The shortest path has a second one (12 together), but another pair is shorter (11).
-        FibrePairs y = desk(4, 0, 1, 1, 1, 2, 1, 2, 3, 1, 0, 2, 5, 1, 3, 4, 0, 3, 9);
+        FibrePairs y = Desks.of(4, 0, 1, 1, 1, 2, 1, 2, 3, 1, 0, 2, 5, 1, 3, 4, 0, 3, 9);
         due("request", y.request(3, 0, true), 0);
         duePath(y, 0, false, 4, 0);
         duePath(y, 0, true, 2, 3);
@@ -178,18 +161,18 @@ public final class PromiseTest {
         duePath(y, 1, false, 0, 4);
         duePath(y, 1, true, 3, 2);
         // Two paths may come through the same site, and parallel fibres are no common fibre.
-        FibrePairs z = desk(3, 0, 1, 1, 0, 1, 1, 1, 2, 1, 2, 1, 3);
+        FibrePairs z = Desks.of(3, 0, 1, 1, 0, 1, 1, 1, 2, 1, 2, 1, 3);
         due("request", z.request(0, 2, true), 0);
         duePath(z, 0, false, 0, 2);
         duePath(z, 0, true, 1, 3);
         // Fibres that only lead round behind the end make no second path.
-        FibrePairs w = desk(3, 0, 1, 1, 1, 2, 1, 1, 2, 1);
+        FibrePairs w = Desks.of(3, 0, 1, 1, 1, 2, 1, 1, 2, 1);
         due("request", w.request(0, 1, true), NONE);
         due("the longest path", longestPath().about(0, 3), 600);
     }
 
     private static FibrePairs longestPath() {
-        FibrePairs x = desk(7, 0, 1, 100, 1, 2, 100, 2, 3, 100, 3, 4, 100, 4, 5, 100, 5, 6, 100,
+        FibrePairs x = Desks.of(7, 0, 1, 100, 1, 2, 100, 2, 3, 100, 3, 4, 100, 4, 5, 100, 5, 6, 100,
                 6, 5, 100, 5, 4, 100, 4, 3, 100, 3, 2, 100, 2, 1, 100, 1, 0, 100);
         due("request", x.request(0, 6, true), 0);
         duePath(x, 0, false, 0, 1, 2, 3, 4, 5);
@@ -200,28 +183,28 @@ public final class PromiseTest {
 
     private static void requestBestLists() {
         part = "4 request, best lists";
-        FibrePairs x = desk(2, 0, 1, 7, 0, 1, 3, 1, 0, 3, 0, 1, 3);
+        FibrePairs x = Desks.of(2, 0, 1, 7, 0, 1, 3, 1, 0, 3, 0, 1, 3);
         due("request", x.request(0, 1, true), 0);
         duePath(x, 0, false, 1);
         duePath(x, 0, true, 2);
         // Of the lists 0 5 and 1 2 the first one comes first, though 5 is the highest number.
-        FibrePairs y = desk(4, 0, 1, 2, 0, 2, 2, 2, 3, 2, 0, 3, 9, 0, 3, 9, 1, 3, 2);
+        FibrePairs y = Desks.of(4, 0, 1, 2, 0, 2, 2, 2, 3, 2, 0, 3, 9, 0, 3, 9, 1, 3, 2);
         due("request", y.request(0, 3, false), 0);
         duePath(y, 0, false, 0, 5);
         // Of the lists 0 and 1 2 the first one, of 0 2 and 1 the first one: the fewest fibres decide nothing.
-        FibrePairs z = desk(3, 0, 1, 4, 0, 2, 2, 2, 1, 2);
+        FibrePairs z = Desks.of(3, 0, 1, 4, 0, 2, 2, 2, 1, 2);
         due("request", z.request(0, 1, false), 0);
         duePath(z, 0, false, 0);
-        FibrePairs w = desk(3, 0, 2, 2, 0, 1, 4, 2, 1, 2);
+        FibrePairs w = Desks.of(3, 0, 2, 2, 0, 1, 4, 2, 1, 2);
         due("request", w.request(0, 1, false), 0);
         duePath(w, 0, false, 0, 2);
         // Three paths of the same length: of the pairs' lists 0 1 2 3 comes before 0 1 4 and 2 3 4.
-        FibrePairs v = desk(4, 0, 1, 5, 1, 3, 5, 0, 2, 4, 2, 3, 6, 0, 3, 10);
+        FibrePairs v = Desks.of(4, 0, 1, 5, 1, 3, 5, 0, 2, 4, 2, 3, 6, 0, 3, 10);
         due("request", v.request(0, 3, true), 0);
         duePath(v, 0, false, 0, 1);
         duePath(v, 0, true, 2, 3);
         // 0 3 with 1 4 are listed 0 1 3 4, before 0 3 with 2, which are listed 0 2 3.
-        FibrePairs u = desk(4, 0, 1, 1, 0, 2, 1, 0, 3, 2, 1, 3, 1, 2, 3, 1);
+        FibrePairs u = Desks.of(4, 0, 1, 1, 0, 2, 1, 0, 3, 2, 1, 3, 1, 2, 3, 1);
         due("request", u.request(0, 3, true), 0);
         duePath(u, 0, false, 0, 3);
         duePath(u, 0, true, 1, 4);
@@ -230,24 +213,24 @@ public final class PromiseTest {
     private static void requestParting() {
         part = "4 request, parting";
         // Fibres 0 1 join 0 and 1, fibres 2 3 join 1 and 2: the working path is as short as can be.
-        FibrePairs x = desk(3, 0, 1, 1, 0, 1, 2, 1, 2, 2, 1, 2, 1);
+        FibrePairs x = Desks.of(3, 0, 1, 1, 0, 1, 2, 1, 2, 2, 1, 2, 1);
         due("request", x.request(0, 2, true), 0);
         duePath(x, 0, false, 0, 3);
         duePath(x, 0, true, 1, 2);
         due("working length", x.about(0, 3), 2);
         due("spare length", x.about(0, 4), 4);
         // Both partings have a shorter path of 2: of the lists 1 2 and 1 3 the first one decides.
-        FibrePairs y = desk(3, 0, 1, 2, 0, 1, 1, 1, 2, 1, 1, 2, 1);
+        FibrePairs y = Desks.of(3, 0, 1, 2, 0, 1, 1, 1, 2, 1, 1, 2, 1);
         due("request", y.request(0, 2, true), 0);
         duePath(y, 0, false, 1, 2);
         duePath(y, 0, true, 0, 3);
         // Both paths of a parting are of the same length: the one listed first is the working path.
-        FibrePairs z = desk(4, 1, 3, 1, 0, 2, 1, 2, 3, 1, 0, 1, 1);
+        FibrePairs z = Desks.of(4, 1, 3, 1, 0, 2, 1, 2, 3, 1, 0, 1, 1);
         due("request", z.request(0, 3, true), 0);
         duePath(z, 0, false, 3, 0);
         duePath(z, 0, true, 1, 2);
         // The shorter path is the working one, though the other one is listed first.
-        FibrePairs w = desk(2, 0, 1, 2, 0, 1, 1);
+        FibrePairs w = Desks.of(2, 0, 1, 2, 0, 1, 1);
         due("request", w.request(0, 1, true), 0);
         duePath(w, 0, false, 1);
         duePath(w, 0, true, 0);
@@ -255,7 +238,7 @@ public final class PromiseTest {
 
     private static void requestUnprotected() {
         part = "4 request, not protected";
-        FibrePairs x = desk(3, 0, 2, 9, 0, 1, 4, 1, 2, 4);
+        FibrePairs x = Desks.of(3, 0, 2, 9, 0, 1, 4, 1, 2, 4);
         due("request", x.request(2, 0, false), 0);
         duePath(x, 0, false, 2, 1);
         duePath(x, 0, true);
@@ -268,7 +251,7 @@ public final class PromiseTest {
 
     private static void requestNumbersAndWavelengths() {
         part = "4 request, numbers and wavelengths";
-        FibrePairs x = desk(2, 0, 1, 1, 0, 1, 1, 0, 1, 1);
+        FibrePairs x = Desks.of(2, 0, 1, 1, 0, 1, 1, 0, 1, 1);
         for (int id = 0; id < 4; id++) {
             due("request", x.request(0, 1, true), id);
             due("wavelength", x.about(id, 0), id);
@@ -289,7 +272,7 @@ public final class PromiseTest {
         due("the next number", x.request(0, 1, true), 5);
         due("its wavelength", x.about(5, 0), 2);
         // Locked and cut fibres are free on no wavelength.
-        FibrePairs y = desk(2, 0, 1, 1, 0, 1, 2, 0, 1, 3, 0, 1, 4);
+        FibrePairs y = Desks.of(2, 0, 1, 1, 0, 1, 2, 0, 1, 3, 0, 1, 4);
         y.lock(0, true);
         y.cut(2);
         due("request", y.request(0, 1, true), 0);
@@ -305,7 +288,7 @@ public final class PromiseTest {
 
     private static void requestRefused() {
         part = "4 request, refused";
-        FibrePairs x = desk(3, 0, 1, 1, 0, 1, 1, 0, 1, 1);
+        FibrePairs x = Desks.of(3, 0, 1, 1, 0, 1, 1, 0, 1, 1);
         refused("request(-1, 0)", OUT, () -> x.request(-1, 0, true));
         refused("request(0, 3)", OUT, () -> x.request(0, 3, false));
         refused("request(3, 3)", OUT, () -> x.request(3, 3, true));
@@ -327,7 +310,7 @@ public final class PromiseTest {
 
     private static void release() {
         part = "5 release";
-        FibrePairs x = twoFibres();
+        FibrePairs x = Desks.guarded();
         due("request", x.request(0, 1, true), 1);
         for (int id : new int[] {-1, 2, 11, 12, MIN_VALUE, MAX_VALUE}) {
             refused("release(" + id + ")", OUT, () -> x.release(id));
@@ -344,7 +327,7 @@ public final class PromiseTest {
         due("count(2)", x.count(2), 0);
         due("fits", x.fits(0, 1), 4);
         // One that is there no more neither changes over nor counts.
-        FibrePairs y = twoFibres();
+        FibrePairs y = Desks.guarded();
         y.cut(0);
         y.cut(1);
         due("exposed", y.exposed(), 1);
@@ -359,7 +342,7 @@ public final class PromiseTest {
 
     private static void lock() {
         part = "6 lock";
-        FibrePairs x = twoFibres();
+        FibrePairs x = Desks.guarded();
         for (int fibre : new int[] {-1, 2, 14, 32, MIN_VALUE, MAX_VALUE}) {
             refused("lock(" + fibre + ", true)", OUT, () -> x.lock(fibre, true));
             refused("lock(" + fibre + ", false)", OUT, () -> x.lock(fibre, false));
@@ -388,7 +371,7 @@ public final class PromiseTest {
 
     private static void cut() {
         part = "7 cut";
-        FibrePairs x = twoFibres();
+        FibrePairs x = Desks.guarded();
         due("request", x.request(0, 1, false), 1);
         for (int fibre : new int[] {-1, 2, 32, MIN_VALUE, MAX_VALUE}) {
             refused("cut(" + fibre + ")", OUT, () -> x.cut(fibre));
@@ -403,13 +386,13 @@ public final class PromiseTest {
         x.cut(1);
         due("on none", x.about(0, 5), 2);
         due("count(3)", x.count(3), 2);
-        FibrePairs y = twoFibres();
+        FibrePairs y = Desks.guarded();
         y.cut(1);
         due("the spare is cut: on the working path", y.about(0, 5), 0);
         y.cut(0);
         due("both are cut: on none", y.about(0, 5), 2);
         // A cut of the spare while the working path is whole ends the waiting; a cut fibre may be locked.
-        FibrePairs z = twoFibres();
+        FibrePairs z = Desks.guarded();
         z.hold(9);
         z.cut(0);
         z.mend(0);
@@ -419,7 +402,7 @@ public final class PromiseTest {
         due("on its working path", z.about(0, 5), 0);
         due("count(4)", z.count(4), 1);
         // A second cut while it waits sets the count to 0.
-        FibrePairs w = twoFibres();
+        FibrePairs w = Desks.guarded();
         w.hold(9);
         w.cut(0);
         w.mend(0);
@@ -432,7 +415,7 @@ public final class PromiseTest {
 
     private static void mend() {
         part = "8 mend";
-        FibrePairs x = twoFibres();
+        FibrePairs x = Desks.guarded();
         for (int fibre : new int[] {-1, 2, 32, MIN_VALUE, MAX_VALUE}) {
             refused("mend(" + fibre + ")", OUT, () -> x.mend(fibre));
         }
@@ -456,7 +439,7 @@ public final class PromiseTest {
         x.mend(1);
         due("stays there", x.about(0, 5), 0);
         // A path is whole only when its last cut fibre is mended.
-        FibrePairs y = desk(3, 0, 1, 1, 1, 2, 1, 0, 2, 9);
+        FibrePairs y = Desks.of(3, 0, 1, 1, 1, 2, 1, 0, 2, 9);
         due("request", y.request(0, 2, true), 0);
         due("request", y.request(0, 2, false), 1);
         y.cut(0);
@@ -471,7 +454,7 @@ public final class PromiseTest {
 
     private static void hold() {
         part = "9 hold";
-        FibrePairs x = twoFibres();
+        FibrePairs x = Desks.guarded();
         for (int n : new int[] {-1, 1001, MIN_VALUE, MAX_VALUE}) {
             refused("hold(" + n + ")", ARGUMENT, () -> x.hold(n));
         }
@@ -498,7 +481,7 @@ public final class PromiseTest {
         due("on, hold 0", x.about(0, 5), 0);
         due("count", x.about(0, 6), 0);
         // The hold is nothing to one that has no spare.
-        FibrePairs y = desk(2, 0, 1, 1);
+        FibrePairs y = Desks.of(2, 0, 1, 1);
         due("request", y.request(0, 1, false), 0);
         y.hold(1000);
         y.cut(0);
@@ -508,7 +491,7 @@ public final class PromiseTest {
 
     private static void clock() {
         part = "10 clock";
-        FibrePairs x = twoFibres();
+        FibrePairs x = Desks.guarded();
         due("request", x.request(0, 1, true), 1);
         x.release(1);
         x.hold(2);
@@ -528,7 +511,7 @@ public final class PromiseTest {
         x.clock();
         due("count", x.about(0, 6), 2);
         // Each connection counts for itself.
-        FibrePairs y = desk(3, 0, 1, 1, 0, 1, 2, 1, 2, 1, 1, 2, 2);
+        FibrePairs y = Desks.of(3, 0, 1, 1, 0, 1, 2, 1, 2, 1, 1, 2, 2);
         due("request", y.request(0, 1, true), 0);
         due("request", y.request(1, 2, true), 1);
         y.hold(5);
@@ -544,7 +527,7 @@ public final class PromiseTest {
 
     private static void countStaysOnReturn() {
         part = "10 clock, the count stays";
-        FibrePairs x = twoFibres();
+        FibrePairs x = Desks.guarded();
         x.hold(1);
         x.cut(0);
         x.mend(0);
@@ -563,7 +546,7 @@ public final class PromiseTest {
     private static void path() {
         part = "11 path";
         // The fibres' ends stand either way round; the order is from a to b.
-        FibrePairs x = desk(5, 3, 1, 1, 4, 3, 1, 1, 0, 1, 0, 2, 9, 4, 2, 9);
+        FibrePairs x = Desks.of(5, 3, 1, 1, 4, 3, 1, 1, 0, 1, 0, 2, 9, 4, 2, 9);
         due("request", x.request(0, 4, true), 0);
         duePath(x, 0, false, 2, 0, 1);
         duePath(x, 0, true, 3, 4);
@@ -584,7 +567,7 @@ public final class PromiseTest {
 
     private static void about() {
         part = "12 about";
-        FibrePairs x = desk(3, 0, 1, 40, 1, 2, 30, 2, 0, 100);
+        FibrePairs x = Desks.of(3, 0, 1, 40, 1, 2, 30, 2, 0, 100);
         due("request", x.request(2, 0, true), 0);
         due("request", x.request(0, 1, false), 1);
         int[] first = {0, 2, 0, 70, 100, 0, 0};
@@ -611,7 +594,7 @@ public final class PromiseTest {
 
     private static void user() {
         part = "13 user";
-        FibrePairs x = desk(2, 0, 1, 1, 0, 1, 2, 0, 1, 3);
+        FibrePairs x = Desks.of(2, 0, 1, 1, 0, 1, 2, 0, 1, 3);
         due("request", x.request(0, 1, true), 0);
         due("request", x.request(0, 1, true), 1);
         due("request", x.request(0, 1, false), 2);
@@ -630,7 +613,7 @@ public final class PromiseTest {
 
     private static void move() {
         part = "14 move";
-        FibrePairs x = desk(2, 0, 1, 1, 0, 1, 2, 0, 1, 3);
+        FibrePairs x = Desks.of(2, 0, 1, 1, 0, 1, 2, 0, 1, 3);
         due("request", x.request(0, 1, true), 0);
         due("request", x.request(0, 1, true), 1);
         x.hold(9);
@@ -663,7 +646,7 @@ public final class PromiseTest {
     }
 
     private static void moveOfUnprotected() {
-        FibrePairs x = desk(2, 0, 1, 1, 0, 1, 2);
+        FibrePairs x = Desks.of(2, 0, 1, 1, 0, 1, 2);
         due("request", x.request(1, 0, false), 0);
         for (int wavelength = 1; wavelength < 4; wavelength++) {
             due("move", x.move(0), wavelength);
@@ -679,7 +662,7 @@ public final class PromiseTest {
     }
 
     private static void moveThatStays() {
-        FibrePairs x = twoFibres();
+        FibrePairs x = Desks.guarded();
         x.hold(9);
         x.cut(0);
         x.mend(0);
@@ -695,7 +678,7 @@ public final class PromiseTest {
 
     private static void fits() {
         part = "15 fits";
-        FibrePairs x = desk(3, 0, 1, 1, 0, 1, 1, 1, 2, 1);
+        FibrePairs x = Desks.of(3, 0, 1, 1, 0, 1, 1, 1, 2, 1);
         due("fits(0, 1)", x.fits(0, 1), 4);
         due("fits(1, 0)", x.fits(1, 0), 4);
         due("fits(0, 2)", x.fits(0, 2), 0);
@@ -713,7 +696,7 @@ public final class PromiseTest {
         x.lock(3, true);
         due("fits(0, 2)", x.fits(0, 2), 0);
         // A pair is there, though none has the shortest path.
-        due("fits", desk(4, 0, 1, 1, 1, 2, 1, 2, 3, 1, 0, 2, 5, 1, 3, 4).fits(0, 3), 4);
+        due("fits", Desks.of(4, 0, 1, 1, 1, 2, 1, 2, 3, 1, 0, 2, 5, 1, 3, 4).fits(0, 3), 4);
         refused("fits(-1, 0)", OUT, () -> x.fits(-1, 0));
         refused("fits(0, 3)", OUT, () -> x.fits(0, 3));
         refused("fits(3, 3)", OUT, () -> x.fits(3, 3));
@@ -723,7 +706,7 @@ public final class PromiseTest {
     private static void bridge() {
         part = "16 bridge";
         // Fibres 1 and 3 are needed from 0 to 3, between them a round of 0 and 2.
-        FibrePairs x = desk(5, 1, 2, 1, 2, 3, 1, 1, 2, 1, 0, 1, 1);
+        FibrePairs x = Desks.of(5, 1, 2, 1, 2, 3, 1, 1, 2, 1, 0, 1, 1);
         due("bridge(0, 3, 0)", x.bridge(0, 3, 0), 1);
         due("bridge(3, 0, 0)", x.bridge(3, 0, 0), 1);
         due("bridge(0, 2, 0)", x.bridge(0, 2, 0), 3);
@@ -739,7 +722,7 @@ public final class PromiseTest {
         x.lock(0, true);
         due("bridge(0, 3, 3)", x.bridge(0, 3, 3), NONE);
         // The shortest path has no second one, but a pair is there.
-        due("bridge", desk(4, 0, 1, 1, 1, 2, 1, 2, 3, 1, 0, 2, 5, 1, 3, 4).bridge(0, 3, 2), FITS);
+        due("bridge", Desks.of(4, 0, 1, 1, 1, 2, 1, 2, 3, 1, 0, 2, 5, 1, 3, 4).bridge(0, 3, 2), FITS);
         for (int bad : new int[] {-1, 4, MIN_VALUE, MAX_VALUE}) {
             refused("bridge(0, 1, " + bad + ")", OUT, () -> x.bridge(0, 1, bad));
             refused("bridge(1, 1, " + bad + ")", OUT, () -> x.bridge(1, 1, bad));
@@ -752,7 +735,7 @@ public final class PromiseTest {
 
     private static void exposed() {
         part = "17 exposed";
-        FibrePairs x = twoFibres();
+        FibrePairs x = Desks.guarded();
         due("request", x.request(0, 1, true), 1);
         due("request", x.request(0, 1, false), 2);
         due("exposed", x.exposed(), 0);
@@ -769,7 +752,7 @@ public final class PromiseTest {
 
     private static void count() {
         part = "18 count";
-        FibrePairs x = desk(5, 0, 1, 1, 0, 1, 1, 3, 4, 1);
+        FibrePairs x = Desks.of(5, 0, 1, 1, 0, 1, 1, 3, 4, 1);
         dueCounts(x, 5, 3, 0, 0, 0);
         due("request", x.request(0, 1, true), 0);
         due("request", x.request(3, 4, false), 1);
