@@ -74,8 +74,13 @@ public final class RefusalTest {
         return new int[] {-1, bound, -32, 32, 32 + bound - 1, 64, MIN_VALUE, MIN_VALUE + 1, MAX_VALUE};
     }
 
+    /** Fourteen fibres, each one used by a connection, so that its length and place can be seen. */
     private static FibrePairs fourteen() {
-        return Desks.parallel(14);
+        FibrePairs x = Desks.parallel(14);
+        for (int id = 0; id < 7; id++) {
+            due("request", x.request(0, 1, true), id);
+        }
+        return x;
     }
 
     private static void theDesks() {
