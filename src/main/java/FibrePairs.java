@@ -346,8 +346,9 @@ public final class FibrePairs {
 
     /** The sites and fibres, and the search for the best path and pair among some of them. */
     private static final class Net {
-        private static final int UNREACHED = Integer.MAX_VALUE;
-        private static final int BARRED = Integer.MAX_VALUE;
+        // Far above what any way costs.
+        private static final int UNREACHED = 0x7fffffff;
+        private static final int BARRED = 0x7fffffff;
 
         private int sites;
         private int fibres;

@@ -265,6 +265,14 @@ public final class EdgeTest {
         x.release(3);
         due("no pair: no number is taken", x.request(0, 1, true), NONE);
         due("request", x.request(0, 1, false), 3);
+        for (int id = 0; id < 12; id++) {
+            if (id != 2) {
+                x.release(id);
+            }
+        }
+        for (int id : new int[] {0, 1, 3, 4}) {
+            due("request beside 2", x.request(0, 1, false), id);
+        }
     }
 
     private static void requestAtFirst() {
